@@ -1312,7 +1312,9 @@ public final class ClothMarket {
             int most = -1;
             boolean more = true;
             for (int way = 0; way < 720 && more; way++) {
-                int sales = salesByOrder(now, n);
+                trial.takeWhatMoves(now);
+                shareWants(now);
+                int sales = pass(n);
                 if (sales > most) {
                     most = sales;
                     layOrder(row);
@@ -1322,12 +1324,10 @@ public final class ClothMarket {
             return most;
         }
 
-        private int salesByOrder(Market now, int n) {
-            trial.takeWhatMoves(now);
+        private void shareWants(Market now) {
             for (int i = 0; i < now.buyers; i++) {
                 trial.want[i] = now.want[order[i]];
             }
-            return pass(n);
         }
 
         private void layOrder(Strip row) {

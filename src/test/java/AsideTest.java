@@ -116,6 +116,9 @@ public final class AsideTest {
         // By hand: 48271, 182605794, 1291394886 modulo 3 are 1, 0, 0, so THE SHADE moves by -2, -2, -1, 1 at 4.
         due.is("no lull in 4 by seed 1", firstLull(4, 1), 0);
         ClothMarket x = Due.marketOf("g4 oC15 bC1");
+        x.minutes(3);
+        x.want(0, 1);
+        due.tells("winds(60, 1): what was paid ahead does not count", x, x.winds(60, 1), 1, 5);
         due.refuses("winds(0, 1)", x, () -> x.winds(0, 1), Due.BAD);
         due.refuses("winds(61, 1)", x, () -> x.winds(61, 1), Due.BAD);
         due.refuses("winds(1, 0)", x, () -> x.winds(1, 0), Due.BAD);

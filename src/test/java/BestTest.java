@@ -138,6 +138,10 @@ public final class BestTest {
         turnsOf("g4 oA01 bG-", 6, 0, 0);
         turnsOf("g4 oG01 oM01 bM-", 0, 3, 1);
         turnsOf("g4 oG01 oM01 bM-", 3, 0, 1);
+        turnsOf("g4 oF01 oM01 bM-", 0, 3, 1);
+        turnsOf("g4 oG01 oN01 bM-", 0, 3, 1);
+        turnsOf("g4 oT01 bT-", 2, 0, 0);
+        turnsOf("g4 oA01 bA-", 4, 0, 0);
         turnsOf("g4 bM-", 3, 0, 0);
         ClothMarket x = Due.marketOf("g4 oA01 oC02 oT03 bF- bH-");
         x.turn(0);

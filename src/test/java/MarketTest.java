@@ -65,6 +65,7 @@ public final class MarketTest {
         marks("g1 rC- tD- bE-", 0, 1, 2);
         marks("g2 rR- bS- bT-", 0, 1, 0);
         marks("g2 rT-", 0, 1, 0);
+        marks("g2 rR- bS-", 0, 1, 1);
         marks("g2 rC- bD- rE-", 0, 1, 0);
         marks("g2 rC- bD- pE-", 0, 1, 0);
         marks("g2 rA- bC- rE-", 2, 1, 0);
@@ -74,6 +75,8 @@ public final class MarketTest {
     private static void markOthers() {
         marks("g4 bA- dC- bF-", 1, 2, 5);
         marks("g4 bA- tC- bT-", 1, 2, 19);
+        marks("g4 bB- dC- bF-", 1, 2, 4);
+        marks("g4 bB- dC-", 1, 2, 0);
         marks("g4 dA- bB-", 0, 2, 0);
         marks("g4 bA- dB-", 1, 2, 0);
         marks("g4 dB-", 0, 2, 0);
@@ -81,7 +84,8 @@ public final class MarketTest {
         marks("g4 oA05 cH0", 0, 3, Due.NONE);
         marks("g4 oH35 cH0", 0, 3, 0);
         marks("g2 oA00 oB11 oC22 oF33 oG04 tD0", 0, 4, 3);
-        marks("g1 tD0", 0, 4, 0);
+        marks("g1 tA0", 0, 4, 0);
+        marks("g1 oD00 tD0", 0, 4, 1);
         marks("g4 oA05 oT15 oJ05 pH0", 0, 5, 2);
         marks("g4 oA05 pH1", 0, 5, Due.NONE);
         marks("g4 oA05 pH-", 0, 5, Due.NONE);
@@ -142,6 +146,8 @@ public final class MarketTest {
     private static void wish() {
         wishes("g1 oA00 oT00 bJ0", -1);
         wishes("g1 oA00 oT00 bK0", 1);
+        wishes("g1 oT00 oA00 bK0", 1);
+        wishes("g1 oT00 oA00 bJ0", -1);
         wishes("g1 oF05 oB05 bD0", -1);
         wishes("g1 oB05 oF05 bD0", -1);
         wishes("g1 oD05 oC15 bD0", 0);

@@ -178,6 +178,9 @@ public final class MinutesTest {
         due.tells("nobody went", x, x.buyer(0, 1), 1, 2);
         due.tells("at the end", x, x.buyer(2, 1), 1, 19);
         due.is("no MINUTE", x.count(2), 0);
+        ClothMarket six = Due.marketOf("g1 bA- bB- bC- bD- bE- bF-");
+        due.is("turn(1) of six", six.turn(1), 1);
+        due.tells("the sixth went, too", six, six.buyer(5, 1), 1, 6);
         due.refuses("turn(2)", x, () -> x.turn(2), Due.BAD);
         due.refuses("turn(-1)", x, () -> x.turn(-1), Due.BAD);
         ClothMarket none = new ClothMarket();

@@ -124,6 +124,8 @@ public final class RowsTest {
     private static void mean() {
         ClothMarket x = counting(4);
         due.tells("mean of 1 2 3 4, cut", x, x.mean(0), 1, 2);
+        x.row(1, 1);
+        due.tells("mean of 0", x, x.mean(1), 1, 0);
         x.row(1, 2);
         x.lay(1, 0, -3);
         due.tells("mean of -3 0, cut", x, x.mean(1), 1, -1);

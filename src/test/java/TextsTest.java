@@ -153,6 +153,12 @@ public final class TextsTest {
         x.stall(0, 2);
         due.is("the PRICE by the TEXT", x.asked(), 5);
         due.is("nothing to undo", x.undo(0), 0);
+        x.minutes(4);
+        x.keep(0);
+        x.on(0);
+        due.is("market(0) behind on()", x.market(0), 2);
+        x.minutes(2);
+        due.is("all can be undone behind it", x.undo(0), 2);
         Due.write(x, 1, "g3");
         due.is("a MARKET of nobody", x.market(1), 0);
         due.is("without STALLS", x.count(1), 0);

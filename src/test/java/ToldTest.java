@@ -68,6 +68,11 @@ public final class ToldTest {
         x.price(1, 7);
         due.is("upper() in lowest terms already", x.upper(), 4);
         due.is("lower() in lowest terms already", x.lower(), 7);
+        Due.write(x, 0, "g4 oC14 bC1 dF-");
+        x.market(0);
+        x.minutes(1);
+        due.is("upper() of a MARKET with fewer STALLS", x.upper(), 1);
+        due.is("lower() of a MARKET with fewer STALLS", x.lower(), 1);
         due.is("upper() of a new object", new ClothMarket().upper(), 0);
         due.is("lower() of a new object", new ClothMarket().lower(), 1);
     }
@@ -89,6 +94,8 @@ public final class ToldTest {
             due.is("count(" + what + ")", x.count(what), counts[what]);
         }
         due.is("count(8) at first", Due.marketOf("g4 bC1 rD- dE0 cF- tG2 pH3").count(8), 4);
+        due.is("count(3) with a RICH one first", Due.marketOf("g4 rC1 pD-").count(3), 2);
+        due.is("count(4) with a BORED one first", Due.marketOf("g4 tC1 dD-").count(4), 2);
         due.refuses("count(9)", x, () -> x.count(9), Due.BAD);
         due.refuses("count(-1)", x, () -> x.count(-1), Due.BAD);
     }

@@ -30,6 +30,9 @@ public final class TracksTest {
             due.tells("fits of " + seen[c], x, x.fits(1, 3, 0), ways[c], first[c]);
             due.tells("could of " + seen[c], x, x.could(1, 3, 0, 0), goods[c], first[c]);
         }
+        ClothMarket fresh = Due.marketOf("g4 oA01 oT12 bJ0");
+        see(fresh, 0, 12);
+        due.is("could ahead of any fits", fresh.could(1, 3, 0, 0), 2);
         see(x, 0, 9);
         due.tells("fits behind 0", x, x.fits(1, 0, 0), 5, 0);
         due.is("the want stays", x.want(0, 1), 0);
@@ -79,6 +82,14 @@ public final class TracksTest {
         due.tells("five", x, x.fits(31, 20, 5), 3125, 0);
         due.tells("another five", x, x.fits(62, 20, 5), 3125, 0);
         due.is("could of five", x.could(62, 20, 5, 5), 31);
+        ClothMarket last = Due.marketOf("g4 oA01 oT12 dC0 dD0 dE0 dF0 dG0 bH0");
+        see(last, 0, 2, 3, 4, 5, 6, 9);
+        due.tells("the last two", last, last.fits(48, 2, 0), 5, 1);
+        due.is("could of the last one", last.could(48, 2, 0, 5), 2);
+        // A CHILD who has bought goes on to the sweets, so it matters when it BUYS: in MINUTE 3.
+        ClothMarket child = Due.marketOf("g4 oC15 oF35 cC1");
+        see(child, 0, 3);
+        due.tells("a CHILD behind 4", child, child.fits(1, 4, 0), 1, 1);
         due.refuses("six", x, () -> x.fits(63, 20, 5), Due.SPENT);
         due.refuses("could of six", x, () -> x.could(63, 20, 5, 0), Due.SPENT);
     }
@@ -109,6 +120,8 @@ public final class TracksTest {
         see(x, 1, 2, 3, 4, 5, 6, 7, 8);
         due.finds("fits, too many", x, () -> x.fits(1, 0, 1), Due.SIZE);
         for (int v : new int[] {20, -1, -8, -10, Integer.MAX_VALUE, Integer.MIN_VALUE}) {
+            see(x, 2, v, 3, 4, 5, 6, 7);
+            due.finds("fits, no SPOT at first", x, () -> x.fits(1, 0, 2), Due.UNLIKE);
             see(x, 2, 2, 3, 4, 5, 6, v);
             due.finds("fits, no SPOT", x, () -> x.fits(1, 0, 2), Due.UNLIKE);
             due.finds("could, no SPOT", x, () -> x.could(1, 0, 2, 0), Due.UNLIKE);
