@@ -628,7 +628,7 @@ public final class ClothMarket {
         }
 
         boolean has(int i) {
-            return isWithin(i, size);
+            return i >= 0 && i < size;
         }
 
         // Never adds i and n: their sum may wrap around.
@@ -648,7 +648,7 @@ public final class ClothMarket {
         }
 
         int get(int i) {
-            return has(i) ? places[i] : NO_SIGN;
+            return i >= 0 && i < size ? places[i] : NO_SIGN;
         }
 
         int exchange(int i, int v) {

@@ -14,24 +14,17 @@ public final class BestTest {
         due.end("BestTest");
     }
 
-    private static void rowIs(String call, ClothMarket x, int r, int... places) {
-        for (int i = 0; i < places.length; i++) {
-            due.tells(call + ", place " + i, x, x.at(r, i), 1, places[i]);
-        }
-        due.is(call + ", its size", x.at(r, places.length), Due.FINDING);
-    }
-
     private static void best() {
         ClothMarket x = Due.marketOf(DRAWN);
         x.row(1, 40);
         due.is("best(5, 1)", x.best(5, 1), 1);
-        rowIs("best(5, 1)", x, 1, 1, 0);
+        due.rowIs("best(5, 1)", x, 1, 1, 0);
         due.is("best(0, 2)", x.best(0, 2), 0);
-        rowIs("best(0, 2)", x, 2, 0, 1);
+        due.rowIs("best(0, 2)", x, 2, 0, 1);
         due.is("best(2, 2)", x.best(2, 2), 0);
-        rowIs("best(2, 2)", x, 2, 0, 1);
+        due.rowIs("best(2, 2)", x, 2, 0, 1);
         due.is("best(20, 3): the first of those with 1", x.best(20, 3), 1);
-        rowIs("best(20, 3)", x, 3, 0, 1);
+        due.rowIs("best(20, 3)", x, 3, 0, 1);
         due.is("wants stay", x.want(0, 0), 0);
         due.refuses("best(21, 0)", x, () -> x.best(21, 0), Due.BAD);
         due.refuses("best(-1, 0)", x, () -> x.best(-1, 0), Due.BAD);
@@ -42,20 +35,20 @@ public final class BestTest {
         due.refuses("best(0, 6) of nobody", nobody, () -> nobody.best(0, 6), Due.BAD);
         ClothMarket one = Due.marketOf("g4 oC15 bD1");
         due.is("best(3, 0) of one", one.best(3, 0), 1);
-        rowIs("best(3, 0) of one", one, 0, 0);
+        due.rowIs("best(3, 0) of one", one, 0, 0);
     }
 
     /** All are BORED and stand at STALLS: a way is as good as many stand at what they want. */
     private static void bestOfMany() {
         ClothMarket x = Due.marketOf("g1 oC01 oD11 oE21 oF31 dC1 dD0 dE3 dF2");
         due.is("best(10, 0)", x.best(10, 0), 4);
-        rowIs("best(10, 0)", x, 0, 1, 0, 3, 2);
+        due.rowIs("best(10, 0)", x, 0, 1, 0, 3, 2);
         ClothMarket y = Due.marketOf("g1 oC01 oD11 oE21 oF31 dA- dB- dC1 dD0 dE3 dF-");
         due.is("best(10, 0) with nothing wanted", y.best(10, 0), 3);
-        rowIs("best(10, 0) with nothing wanted", y, 0, 0, 1, 3, 2, 5, 4);
+        due.rowIs("best(10, 0) with nothing wanted", y, 0, 0, 1, 3, 2, 5, 4);
         ClothMarket z = Due.marketOf("g1 oF01 dA0 dB1 dC2 dD3 dE- dF-");
         due.is("best(10, 0) of six", z.best(10, 0), 1);
-        rowIs("best(10, 0) of six", z, 0, 1, 2, 3, 4, 5, 0);
+        due.rowIs("best(10, 0) of six", z, 0, 1, 2, 3, 4, 5, 0);
     }
 
     private static void spot() {

@@ -5,12 +5,29 @@ final class Due {
 
     private int wrong;
     private int looked;
+    private int sentences;
+    private int lookedBefore;
+    private String sentence = "";
 
     void is(String call, long got, long want) {
         looked++;
         if (got != want) {
             wrong++;
-            System.out.println(call + " answered " + got + ", due is " + want);
+            System.out.println(sentence + call + " answered " + got + ", due is " + want);
+        }
+    }
+
+    /** The sentence of the document by which the answers from here on are due: each one has some of its own. */
+    void by(String words) {
+        endSentence();
+        sentence = "'" + words + "': ";
+        sentences++;
+        lookedBefore = looked;
+    }
+
+    private void endSentence() {
+        if (sentences > 0 && looked == lookedBefore) {
+            is("number of answers", 0, 1);
         }
     }
 
@@ -72,12 +89,42 @@ final class Due {
         return x;
     }
 
-    static int askedAfter(ClothMarket x, int answer) {
-        return answer == 1 ? x.asked() : answer;
+    /** A ROW is there, with these places and no more. */
+    void rowIs(String call, ClothMarket x, int r, int... places) {
+        for (int i = 0; i < places.length; i++) {
+            tells(call + ", place " + i, x, x.at(r, i), 1, places[i]);
+        }
+        finds(call + ", behind its places", x, () -> x.at(r, places.length), BEYOND);
+    }
+
+    /** SPOTS of all BUYERS, as letters. */
+    void standAt(String call, ClothMarket x, String letters) {
+        is(call + ", how many BUYERS", x.count(0), letters.length());
+        for (int i = 0; i < letters.length(); i++) {
+            tells(call + ", SPOT of BUYER " + i, x, x.buyer(i, 1), 1, letters.charAt(i) - 'A');
+        }
+    }
+
+    static void see(ClothMarket x, int r, int... places) {
+        x.row(r, places.length);
+        for (int i = 0; i < places.length; i++) {
+            x.lay(r, i, places[i]);
+        }
+    }
+
+    static ClothMarket behind(String text, int minutes) {
+        ClothMarket x = marketOf(text);
+        for (int m = 0; m < minutes; m++) {
+            x.minutes(1);
+        }
+        return x;
     }
 
     void end(String name) {
-        System.out.println(name + ": " + looked + " answers, " + wrong + " not as due");
+        endSentence();
+        sentence = "";
+        System.out.println(name + ": " + looked + " answers, " + wrong + " not as due"
+            + (sentences > 0 ? ", by " + sentences + " sentences" : ""));
         if (wrong != 0 || looked == 0) {
             System.exit(1);
         }

@@ -1,8 +1,17 @@
 import java.io.IOException;
+import java.io.PrintWriter;
+import java.io.StringWriter;
+import java.net.URISyntaxException;
 import java.nio.file.Files;
 import java.nio.file.Path;
+import java.util.ArrayList;
+import java.util.List;
+import java.util.TreeMap;
+import java.util.TreeSet;
 import java.util.regex.Matcher;
 import java.util.regex.Pattern;
+import java.util.spi.ToolProvider;
+import java.util.stream.Stream;
 
 /** What of LANGUAGE.md can be seen from the class's lines. */
 public final class LanguageTest {
@@ -13,7 +22,9 @@ public final class LanguageTest {
         "\\bequals\\b", "\\bprotected\\b", "\\bThread\\b", "\\bRandom\\b", "\\bnanoTime\\b", "\\bdouble\\b",
         "\\bfloat\\b", "\\bvar\\b", "\\bgoto\\b", "\\bnative\\b", "\\bvolatile\\b"};
 
-    public static void main(String[] args) throws IOException {
+    private static final int DEEPEST = 8;
+
+    public static void main(String[] args) throws IOException, URISyntaxException {
         String source = Files.readString(Path.of("src/main/java/ClothMarket.java"));
         String code = source.replaceAll("(?s)/\\*.*?\\*/", "").replaceAll("//[^\n]*", "");
         for (String word : FORBIDDEN) {
@@ -30,7 +41,62 @@ public final class LanguageTest {
             due.is("not final: " + statics.group(), Pattern.compile("\\bfinal\\b").matcher(statics.group()).find() ? 1 : 0, 1);
         }
         methodsAreShort(code);
+        callsAreShallow(callsOfClass());
         due.end("LanguageTest");
+    }
+
+    /** By the compiled class: which of its methods calls which. */
+    private static TreeMap<String, TreeSet<String>> callsOfClass() throws IOException, URISyntaxException {
+        Path place = Path.of(ClothMarket.class.getProtectionDomain().getCodeSource().getLocation().toURI());
+        TreeMap<String, TreeSet<String>> calls = new TreeMap<>();
+        List<Path> files = new ArrayList<>();
+        try (Stream<Path> all = Files.list(place)) {
+            all.filter(f -> f.getFileName().toString().matches("ClothMarket(\\$\\w+)?\\.class")).forEach(files::add);
+        }
+        ToolProvider javap = ToolProvider.findFirst("javap").orElseThrow();
+        for (Path file : files) {
+            String owner = file.getFileName().toString().replace(".class", "");
+            StringWriter text = new StringWriter();
+            PrintWriter out = new PrintWriter(text);
+            javap.run(out, out, "-c", "-p", file.toString());
+            readCalls(owner, text.toString(), calls);
+        }
+        return calls;
+    }
+
+    private static void readCalls(String owner, String text, TreeMap<String, TreeSet<String>> calls) {
+        Pattern head = Pattern.compile("^  (?! ).*?([\\w$]+)\\(.*\\);$");
+        Pattern call = Pattern.compile("// (?:Interface)?Method (?:([\\w$/]+)\\.)?\"?([\\w<>]+)\"?:");
+        TreeSet<String> made = new TreeSet<>();
+        for (String line : text.split("\\R")) {
+            Matcher m = head.matcher(line);
+            if (m.find()) {
+                made = calls.computeIfAbsent(owner + "." + (m.group(1).equals(owner) ? "<init>" : m.group(1)), n -> new TreeSet<>());
+            }
+            m = call.matcher(line);
+            if (m.find()) {
+                made.add((m.group(1) == null ? owner : m.group(1)) + "." + m.group(2));
+            }
+        }
+    }
+
+    private static void callsAreShallow(TreeMap<String, TreeSet<String>> calls) {
+        due.is("methods are found", calls.size() > 100 ? 1 : 0, 1);
+        for (String name : calls.keySet()) {
+            int deep = depth(name, calls, 0);
+            due.is(name + " and what it calls, " + deep + " deep", deep <= DEEPEST ? 1 : 0, 1);
+        }
+    }
+
+    /** Recursion, of which the class has none, shows as a depth beyond all others. */
+    private static int depth(String name, TreeMap<String, TreeSet<String>> calls, int above) {
+        int below = 0;
+        if (above < 40) {
+            for (String called : calls.getOrDefault(name, new TreeSet<>())) {
+                below = Math.max(below, depth(called, calls, above + 1));
+            }
+        }
+        return below + 1;
     }
 
     private static void methodsAreShort(String code) {

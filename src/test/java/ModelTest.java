@@ -8,7 +8,8 @@ import java.util.TreeMap;
 /** Runs of calls by a fixed seed, on the class and on PlainModel: every answer must be the same. */
 public final class ModelTest {
     private static final String LETTERS = "brdctp";
-    private static final int CALLS = 400;
+    /** No step makes more than 90 calls, and an object is promised for 512. */
+    private static final int CALLS = 512 - 90;
 
     private final Random dice;
     private final ClothMarket x = new ClothMarket();
@@ -22,7 +23,7 @@ public final class ModelTest {
     }
 
     public static void main(String[] args) {
-        int runs = args.length > 0 ? Integer.parseInt(args[0]) : 400;
+        int runs = args.length > 0 ? Integer.parseInt(args[0]) : 800;
         for (Method m : ClothMarket.class.getMethods()) {
             if (m.getDeclaringClass() == ClothMarket.class) {
                 FACE.put(m.getName(), m);
@@ -56,7 +57,7 @@ public final class ModelTest {
     private boolean holds() {
         write(0, below(6) == 0 ? randomText() : marketText());
         boolean alike = does("market", 0);
-        for (int c = 0; c < CALLS && alike; c++) {
+        for (int c = 0; told.size() < CALLS && alike; c++) {
             alike = anyCall() && does("asked");
             if (c % 8 == 0) {
                 alike = alike && does("digest") && does("finding");

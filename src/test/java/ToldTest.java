@@ -20,35 +20,13 @@ public final class ToldTest {
         x.lay(0, 0, 8);
         x.lay(0, 1, 8);
         due.tells("at", x, x.at(0, 0), 1, 8);
-        x.tear(0);
         x.row(0, 2);
-        x.copy(0, 0, 0, 1, 1);
-        x.text(1, 4);
-        x.put(1, 0, 65);
-        x.fault(1);
-        x.market(0);
-        x.mark(1, 2);
-        x.want(0, 1);
-        x.price(0, 7);
-        x.minutes(1);
-        x.undo(0);
-        x.turn(0);
-        x.shaded();
-        x.keep(0);
-        x.on(0);
         x.best(5, 1);
-        x.could(1, 0, 1, 0);
-        x.upper();
-        x.lower();
-        x.count(1);
-        x.finding();
-        x.findings(1);
-        x.digest();
         due.is("these tell nothing by it", x.asked(), 8);
         due.tells("mean", x, x.mean(0), 1, 0);
         due.tells("when, NONE: it stays", x, x.when(1), Due.NONE, 0);
         due.tells("fits, none: NONE as told", x, x.fits(3, 0, 1), 0, Due.NONE);
-        due.tells("buyer", x, x.buyer(1, 1), 1, 4);
+        due.tells("buyer", x, x.buyer(1, 1), 1, 5);
     }
 
     private static void part() {
