@@ -5,6 +5,9 @@ public final class TermsEdgesTest {
     private static final int THIEF = 4;
 
     public static void main(String[] args) {
+        orderOfRefusals();
+        noneIsNoRefusal();
+        findings();
         rowsAndTexts();
         spots();
         withoutBuyersAtFirst();
@@ -36,6 +39,64 @@ public final class TermsEdgesTest {
         buys();
         lots();
         due.end("TermsEdgesTest");
+    }
+
+    private static void orderOfRefusals() {
+        due.by("Refused is, the first of these that fits, in this order: BAD, FULL, STATE, SPENT, FINDING");
+        ClothMarket nobody = new ClothMarket();
+        due.refuses("BAD ahead of STATE", nobody, () -> nobody.minutes(21), Due.BAD);
+        due.refuses("BAD ahead of STATE", nobody, () -> nobody.best(0, 6), Due.BAD);
+        due.refuses("BAD ahead of STATE", nobody, () -> nobody.winds(1, 0), Due.BAD);
+        due.refuses("STATE ahead of FINDING", nobody, () -> nobody.fits(0, 0, 0), Due.STATE);
+        due.refuses("BAD ahead of FINDING", nobody, () -> nobody.row(6, -1), Due.BAD);
+        due.refuses("BAD ahead of FINDING", nobody, () -> nobody.text(-1, -1), Due.BAD);
+        ClothMarket six = Due.marketOf("g1 bA0 bB0 bC0 bD0 bE0 bF0");
+        due.refuses("BAD ahead of SPENT", six, () -> six.fits(63, 21, 0), Due.BAD);
+        due.refuses("SPENT ahead of FINDING", six, () -> six.fits(63, 0, 0), Due.SPENT);
+        due.finds("FINDING last", six, () -> six.fits(31, 0, 0), Due.NOTHING);
+        due.refuses("BAD ahead of FINDING", six, () -> six.mark(0, 0), Due.BAD);
+        due.by("unless a call says so otherwise");
+        due.finds("market(): STATE behind NOTHING", nobody, () -> nobody.market(0), Due.NOTHING);
+        six.minutes(20);
+        six.minutes(20);
+        six.minutes(20);
+        due.refuses("minutes(): BAD ahead of FULL", six, () -> six.minutes(21), Due.BAD);
+        due.refuses("minutes(): FULL last", six, () -> six.minutes(20), Due.FULL);
+    }
+
+    private static void noneIsNoRefusal() {
+        due.by("NONE -9: it is no refusal");
+        ClothMarket x = Due.marketOf("g1 oA00 bB- cC- pD-");
+        due.is("fault", x.fault(0), -9);
+        due.is("mark of a CHILD", x.mark(1, 3), -9);
+        due.is("mark of a PORTER", x.mark(2, 5), -9);
+        due.is("when", x.when(0), -9);
+        due.is("finding()", x.finding(), 0);
+        for (int f = 1; f <= 5; f++) {
+            due.is("findings(" + f + ")", x.findings(f), 0);
+        }
+    }
+
+    private static void findings() {
+        due.by("1 NOTHING (a ROW, a TEXT, a kept MARKET that is missing)");
+        ClothMarket x = Due.marketOf("g1 bA0 cB0");
+        due.finds("a ROW", x, () -> x.tear(0), 1);
+        due.finds("a TEXT", x, () -> x.fault(1), 1);
+        due.finds("a kept MARKET", x, () -> x.on(0), 1);
+        due.by("2 BEYOND (a place that there is not)");
+        Due.see(x, 0, 20, 1);
+        due.finds("of a ROW", x, () -> x.at(0, 2), 2);
+        due.finds("of a TEXT", x, () -> x.put(0, 10, 65), 2);
+        due.finds("of two ROWS", x, () -> x.copy(0, 0, 0, 1, 2), 2);
+        due.by("3 UNLIKE (a BUYER of another KIND; a number that is none)");
+        due.finds("another KIND", x, () -> x.mark(0, 3), 3);
+        due.finds("no SPOT", x, () -> x.fits(1, 0, 0), 3);
+        due.by("4 NOUGHT (shared among none; what can't be)");
+        x.row(1, 0);
+        due.finds("shared among none", x, () -> x.mean(1), 4);
+        due.by("5 SIZE (fewer than none; not as many as due)");
+        due.finds("fewer than none", x, () -> x.row(1, -1), 5);
+        due.finds("not as many as due", x, () -> x.fits(1, 0, 1), 5);
     }
 
     private static void rowsAndTexts() {
