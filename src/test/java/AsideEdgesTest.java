@@ -142,6 +142,8 @@ public final class AsideEdgesTest {
         ClothMarket sweets = Due.marketOf("g4 oA30 cT-");
         due.tells("19 STEPS, no sale", sweets, sweets.rest(), 26, 0);
         due.is("the longest", Due.marketOf(LONG).rest(), 36);
+        ClothMarket both = Due.marketOf("g4 oA35 dA3 cC-");
+        due.tells("all SPOTS and wants: one STEP in 1, a sale in 2", both, both.rest(), 9, 0);
         due.by("27: how many BUYERS want something then by asked()");
         ClothMarket six = Due.marketOf("g4 dA0 dB1 dC2 tD3 dE0 tF1");
         due.tells("six", six, six.rest(), 7, 6);
