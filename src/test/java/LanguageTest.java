@@ -22,6 +22,9 @@ public final class LanguageTest {
         "\\bequals\\b", "\\bprotected\\b", "\\bThread\\b", "\\bRandom\\b", "\\bnanoTime\\b", "\\bdouble\\b",
         "\\bfloat\\b", "\\bvar\\b", "\\bgoto\\b", "\\bnative\\b", "\\bvolatile\\b"};
 
+    /** Of what LANGUAGE.md lists, all that the class has had need of. */
+    private static final String[] LIBRARY = {"java/lang/Object.<init>", "java/lang/Math.abs", "java/lang/Math.max",
+        "java/lang/Integer.bitCount", "java/lang/System.arraycopy"};
     private static final int DEEPEST = 8;
 
     public static void main(String[] args) throws IOException, URISyntaxException {
@@ -41,7 +44,9 @@ public final class LanguageTest {
             due.is("not final: " + statics.group(), Pattern.compile("\\bfinal\\b").matcher(statics.group()).find() ? 1 : 0, 1);
         }
         methodsAreShort(code);
-        callsAreShallow(callsOfClass());
+        TreeMap<String, TreeSet<String>> calls = callsOfClass();
+        callsAreShallow(calls);
+        libraryIsListed(calls);
         due.end("LanguageTest");
     }
 
@@ -66,7 +71,7 @@ public final class LanguageTest {
 
     private static void readCalls(String owner, String text, TreeMap<String, TreeSet<String>> calls) {
         Pattern head = Pattern.compile("^  (?! ).*?([\\w$]+)\\(.*\\);$");
-        Pattern call = Pattern.compile("// (?:Interface)?Method (?:([\\w$/]+)\\.)?\"?([\\w<>]+)\"?:");
+        Pattern call = Pattern.compile("// (?:(?:Interface)?Method|InvokeDynamic) (?:([\\w$/]+|#\\d+)[.:])?\"?([\\w<>]+)\"?:");
         TreeSet<String> made = new TreeSet<>();
         for (String line : text.split("\\R")) {
             Matcher m = head.matcher(line);
@@ -76,6 +81,15 @@ public final class LanguageTest {
             m = call.matcher(line);
             if (m.find()) {
                 made.add((m.group(1) == null ? owner : m.group(1)) + "." + m.group(2));
+            }
+        }
+    }
+
+    private static void libraryIsListed(TreeMap<String, TreeSet<String>> calls) {
+        for (String name : calls.keySet()) {
+            for (String called : calls.get(name)) {
+                boolean fine = called.startsWith("ClothMarket") || List.of(LIBRARY).contains(called);
+                due.is(name + " calls " + called, fine ? 1 : 0, 1);
             }
         }
     }
