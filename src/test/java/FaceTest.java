@@ -2,6 +2,8 @@ import java.lang.reflect.Constructor;
 import java.lang.reflect.Field;
 import java.lang.reflect.Method;
 import java.lang.reflect.Modifier;
+import java.util.ArrayList;
+import java.util.List;
 import java.util.TreeSet;
 
 /** The public face is that of the document, and there is nothing beside it. */
@@ -41,6 +43,7 @@ public final class FaceTest {
         due.is("methods beside the face " + open, open.size(), 0);
         constants(due);
         classes(due);
+        staticsAreFinal(due);
         due.end("FaceTest");
     }
 
@@ -58,6 +61,30 @@ public final class FaceTest {
         due.is("fields that are not private", open, 6);
     }
 
+    private static boolean isOfFace(String name) {
+        for (String call : FACE) {
+            if (call.contains(" " + name + "(")) {
+                return true;
+            }
+        }
+        return false;
+    }
+
+    private static void staticsAreFinal(Due due) {
+        ArrayList<Class<?>> all = new ArrayList<>(List.of(ClothMarket.class.getDeclaredClasses()));
+        all.add(ClothMarket.class);
+        List<Class<?>> types = List.of(int.class, long.class, boolean.class, char.class, String.class,
+            int[].class, long[].class, char[].class, byte[].class);
+        for (Class<?> c : all) {
+            for (Field f : c.getDeclaredFields()) {
+                if (Modifier.isStatic(f.getModifiers())) {
+                    due.is(c + "'s " + f.getName() + " is final", Modifier.isFinal(f.getModifiers()) ? 1 : 0, 1);
+                    due.is(c + "'s " + f.getName() + " is of a type for constants", types.contains(f.getType()) ? 1 : 0, 1);
+                }
+            }
+        }
+    }
+
     private static void classes(Due due) {
         due.is("public and final", ClothMarket.class.getModifiers(), Modifier.PUBLIC | Modifier.FINAL);
         Constructor<?>[] made = ClothMarket.class.getDeclaredConstructors();
@@ -67,6 +94,10 @@ public final class FaceTest {
         due.is("classes inside are 11 at most", ClothMarket.class.getDeclaredClasses().length <= 11 ? 1 : 0, 1);
         for (Class<?> inside : ClothMarket.class.getDeclaredClasses()) {
             due.is(inside + " is static", Modifier.isStatic(inside.getModifiers()) ? 1 : 0, 1);
+            due.is(inside + " is public or protected", inside.getModifiers() & (Modifier.PUBLIC | Modifier.PROTECTED), 0);
+            for (Method m : inside.getDeclaredMethods()) {
+                due.is(inside + " has a method named as one of the face: " + m.getName(), isOfFace(m.getName()) ? 1 : 0, 0);
+            }
             int fields = 0;
             for (Field f : inside.getDeclaredFields()) {
                 fields += Modifier.isStatic(f.getModifiers()) ? 0 : 1;
